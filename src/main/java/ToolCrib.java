@@ -26,6 +26,7 @@ public final class ToolCrib {
     private final Setter gauge = new Setter();
     private final Jobs jobs = new Jobs();
     private final Tape tape = new Tape();
+    private final Reader reader = new Reader(tape);
     private final Stack stack = new Stack();
     private final int[] names = new int[Text.NAMES];
     private int edgeCount;
@@ -44,7 +45,7 @@ public final class ToolCrib {
         for (int i = 0; i < TEXT_ZERO.length(); i++) {
             tape.add((byte) TEXT_ZERO.charAt(i));
         }
-        tape.readInto(textOf(0));
+        reader.readInto(textOf(0));
         tape.empty();
         textCount = 1;
     }
@@ -223,7 +224,7 @@ public final class ToolCrib {
         if (textCount >= MOST_TEXTS) {
             return FULL;
         }
-        int fault = tape.readInto(textOf(textCount));
+        int fault = reader.readInto(textOf(textCount));
         tape.empty();
         if (fault != NONE) {
             return -100 - fault;
@@ -315,7 +316,24 @@ public final class ToolCrib {
     }
 
     public int cut(int machine, int family, int cuts, int stuff) {
-        return makeCut(machine, family, cuts, stuff);
+        Machine m = machineOf(machine);
+        if (m == null || !isFamily(family) || !within(cuts, 1, MOST_CUTS) || !within(stuff, 1, STUFFS)) {
+            return BAD;
+        }
+        int taker = takerOf(machine, family);
+        Tool t = toolOf(taker);
+        if (t == null) {
+            return STATE;
+        }
+        Edge e = t.edge;
+        e.cutBy(cuts, m.speed, stuff);
+        e.follow(machine);
+        if (ruleFor(t, PART_BROKEN) != 0) {
+            e.state = BROKEN;
+        } else if (e.wearSoFar >= e.wearInAll() || ruleFor(t, PART_WORN) != 0) {
+            e.state = WORN;
+        }
+        return taker;
     }
 
     // ---- jobs
@@ -516,27 +534,6 @@ public final class ToolCrib {
         return text.valueOf(part, names, stack);
     }
 
-    private int makeCut(int machine, int family, int c, int stuff) {
-        Machine m = machineOf(machine);
-        if (m == null || !isFamily(family) || !within(c, 1, MOST_CUTS) || !within(stuff, 1, STUFFS)) {
-            return BAD;
-        }
-        int taker = takerOf(machine, family);
-        Tool t = toolOf(taker);
-        if (t == null) {
-            return STATE;
-        }
-        Edge e = t.edge;
-        e.cutBy(c, m.speed, stuff);
-        e.follow(machine);
-        if (ruleFor(t, PART_BROKEN) != 0) {
-            e.state = BROKEN;
-        } else if (e.wearSoFar >= e.wearInAll() || ruleFor(t, PART_WORN) != 0) {
-            e.state = WORN;
-        }
-        return taker;
-    }
-
     /** The TOOL of a FAMILY in a MACHINE's magazine that takes the next CUT, or NONE. */
     private int takerOf(int machine, int family) {
         int best = NONE;
@@ -562,7 +559,7 @@ public final class ToolCrib {
             if (!s.has(at) || !s.has(at + 2)) {
                 return OUTSIDE;
             }
-            if (makeCut(machine, s.get(at), s.get(at + 1), s.get(at + 2)) >= 0) {
+            if (cut(machine, s.get(at), s.get(at + 1), s.get(at + 2)) >= 0) {
                 done++;
             }
             at += 3;
@@ -806,7 +803,7 @@ public final class ToolCrib {
                 return -right;
             }
             if (step == NOT) {
-                return truth(right == 0);
+                return right == 0 ? 1 : 0;
             }
             return joined(step, stack.pop(), right);
         }
@@ -816,16 +813,12 @@ public final class ToolCrib {
                 case TIMES: return left * right;
                 case PLUS: return left + right;
                 case MINUS: return left - right;
-                case BELOW: return truth(left < right);
-                case SAME: return truth(left == right);
-                case AND: return truth(left != 0 && right != 0);
-                case OR: return truth(left != 0 || right != 0);
+                case BELOW: return left < right ? 1 : 0;
+                case SAME: return left == right ? 1 : 0;
+                case AND: return left != 0 && right != 0 ? 1 : 0;
+                case OR: return left != 0 || right != 0 ? 1 : 0;
                 default: return 0;
             }
-        }
-
-        private static int truth(boolean b) {
-            return b ? 1 : 0;
         }
     }
 
@@ -855,21 +848,20 @@ public final class ToolCrib {
         }
     }
 
-    /** THE TAPE, and the reading of a TEXT from it: one TOKEN ahead, one method a line of the grammar. */
+    /** THE TAPE, and the TOKENS that stand on it. */
     private static final class Tape {
-        private static final int MOST_OPEN = 5, MOST_DIGITS = 4;
-        /** TOKENS: a sign is told as its byte, a NAME, not, and, or as the step of a Text. */
-        private static final int END = 0, UNKNOWN = 1, NUMBER = 2;
-        private static final int KEY_WORN = -21, KEY_BROKEN = -22, KEY_CHECK = -23;
+        private static final int MOST_DIGITS = 4;
+        /** A token from 0 on is a NUMBER; NAMES, not, and, or are told as the steps of a Text. */
+        static final int END = -20, UNKNOWN = -21, KEY_WORN = -22, KEY_BROKEN = -23, KEY_CHECK = -24;
+        /** Signs are told as their bytes, but below 0. */
+        static final int OPENS = -'(', CLOSES = -')', STOP = -';', PLUS = -'+', MINUS = -'-';
+        static final int TIMES = -'*', BELOW = -'<', SAME = -'=';
 
         private final byte[] bytes = new byte[TAPE_BYTES];
+        private final int[] tokens = new int[TAPE_BYTES + 1];
+        private final int[] places = new int[TAPE_BYTES + 1];
         int size;
-        private Text text;
-        private int at;
-        private int start;
-        private int token;
-        private int number;
-        private int fault;
+        private int tokenCount;
 
         void add(byte b) {
             if (size < TAPE_BYTES) {
@@ -882,6 +874,139 @@ public final class ToolCrib {
             size = 0;
         }
 
+        /** The last of the tokens is END, at the text's size. */
+        void split() {
+            tokenCount = 0;
+            for (int i = 0; i < size; i++) {
+                if (isBegin(i)) {
+                    keep(tokenFrom(i), i);
+                }
+            }
+            keep(END, size);
+        }
+
+        private void keep(int token, int place) {
+            if (tokenCount <= TAPE_BYTES) {
+                tokens[tokenCount] = token;
+                places[tokenCount] = place;
+                tokenCount++;
+            }
+        }
+
+        int tokenAt(int i) {
+            return i >= 0 && i < tokenCount && i <= TAPE_BYTES ? tokens[i] : END;
+        }
+
+        int placeAt(int i) {
+            return i >= 0 && i < tokenCount && i <= TAPE_BYTES ? places[i] : size;
+        }
+
+        private int byteAt(int i) {
+            return i >= 0 && i < size && i < TAPE_BYTES ? bytes[i] : 0;
+        }
+
+        private boolean isBegin(int i) {
+            int b = byteAt(i);
+            return b != 32 && b != 10 && !isOneRun(byteAt(i - 1), b);
+        }
+
+        private static boolean isOneRun(int before, int b) {
+            return isLetter(before) && isLetter(b) || isDigit(before) && isDigit(b);
+        }
+
+        private static boolean isLetter(int b) {
+            return b >= 'a' && b <= 'z';
+        }
+
+        private static boolean isDigit(int b) {
+            return b >= '0' && b <= '9';
+        }
+
+        private int tokenFrom(int from) {
+            int b = byteAt(from);
+            int end = from + 1;
+            while (end < size && isOneRun(b, byteAt(end))) {
+                end++;
+            }
+            if (isLetter(b)) {
+                return wordOf(from, end - from);
+            }
+            if (isDigit(b)) {
+                return numberOf(from, end - from);
+            }
+            return signOf(b);
+        }
+
+        private int numberOf(int from, int digits) {
+            if (digits > MOST_DIGITS) {
+                return UNKNOWN;
+            }
+            int number = 0;
+            for (int i = 0; i < digits; i++) {
+                number = number * 10 + (byteAt(from + i) - '0');
+            }
+            return number;
+        }
+
+        private static int signOf(int b) {
+            switch (b) {
+                case '(':
+                case ')':
+                case ';':
+                case '+':
+                case '-':
+                case '*':
+                case '<':
+                case '=':
+                    return -b;
+                default:
+                    return UNKNOWN;
+            }
+        }
+
+        private int wordOf(int from, int letters) {
+            if (isWord("cuts", from, letters)) return Text.CUTS;
+            if (isWord("speed", from, letters)) return Text.SPEED;
+            if (isWord("stuff", from, letters)) return Text.STUFF;
+            if (isWord("life", from, letters)) return Text.LIFE;
+            if (isWord("reading", from, letters)) return Text.READING;
+            if (isWord("nominal", from, letters)) return Text.NOMINAL;
+            if (isWord("worn", from, letters)) return KEY_WORN;
+            if (isWord("broken", from, letters)) return KEY_BROKEN;
+            if (isWord("check", from, letters)) return KEY_CHECK;
+            if (isWord("or", from, letters)) return Text.OR;
+            if (isWord("and", from, letters)) return Text.AND;
+            if (isWord("not", from, letters)) return Text.NOT;
+            return UNKNOWN;
+        }
+
+        private boolean isWord(String word, int from, int letters) {
+            if (letters != word.length()) {
+                return false;
+            }
+            for (int i = 0; i < word.length(); i++) {
+                if (byteAt(from + i) != word.charAt(i)) {
+                    return false;
+                }
+            }
+            return true;
+        }
+    }
+
+    /** Reads THE TAPE's TOKENS as a TEXT: one method a line of the grammar, with one TOKEN ahead. */
+    private static final class Reader {
+        private static final int MOST_OPEN = 5;
+
+        private final Tape tape;
+        private Text text;
+        private int at;
+        private int token;
+        private int fault;
+
+        Reader(Tape tape) {
+            this.tape = tape;
+        }
+
         /** The place of the FAULT, or NONE: then the TEXT stands in the row that was given. */
         int readInto(Text row) {
             if (row == null) {
@@ -889,20 +1014,21 @@ public final class ToolCrib {
             }
             text = row;
             text.clear();
+            tape.split();
             fault = NONE;
             at = 0;
-            advance();
-            readPart(KEY_WORN);
-            readPart(KEY_BROKEN);
-            readPart(KEY_CHECK);
-            expect(END);
+            token = tape.tokenAt(0);
+            readPart(Tape.KEY_WORN);
+            readPart(Tape.KEY_BROKEN);
+            readPart(Tape.KEY_CHECK);
+            expect(Tape.END);
             return fault;
         }
 
         private void readPart(int key) {
             expect(key);
             readEither(0);
-            expect(';');
+            expect(Tape.STOP);
             text.closePart();
         }
 
@@ -924,17 +1050,17 @@ public final class ToolCrib {
 
         private void readNot(int open) {
             if (token == Text.NOT) {
-                if (opens(open)) {
+                if (mayOpen(open)) {
                     readNot(open + 1);
                     text.add(Text.NOT);
                 }
                 return;
             }
             readSum(open);
-            if (accept('<')) {
+            if (accept(Tape.BELOW)) {
                 readSum(open);
                 text.add(Text.BELOW);
-            } else if (accept('=')) {
+            } else if (accept(Tape.SAME)) {
                 readSum(open);
                 text.add(Text.SAME);
             }
@@ -942,8 +1068,8 @@ public final class ToolCrib {
 
         private void readSum(int open) {
             readTerm(open);
-            for (int i = 0; i < TAPE_BYTES && (token == '+' || token == '-'); i++) {
-                int step = token == '+' ? Text.PLUS : Text.MINUS;
+            for (int i = 0; i < TAPE_BYTES && (token == Tape.PLUS || token == Tape.MINUS); i++) {
+                int step = token == Tape.PLUS ? Text.PLUS : Text.MINUS;
                 advance();
                 readTerm(open);
                 text.add(step);
@@ -952,36 +1078,33 @@ public final class ToolCrib {
 
         private void readTerm(int open) {
             readOne(open);
-            for (int i = 0; i < TAPE_BYTES && accept('*'); i++) {
+            for (int i = 0; i < TAPE_BYTES && accept(Tape.TIMES); i++) {
                 readOne(open);
                 text.add(Text.TIMES);
             }
         }
 
         private void readOne(int open) {
-            if (token == NUMBER) {
-                text.add(number);
-                advance();
-            } else if (token <= Text.CUTS && token >= Text.NOMINAL) {
+            if (token >= Text.NOMINAL) {
                 text.add(token);
                 advance();
-            } else if (token == '-') {
-                if (opens(open)) {
+            } else if (token == Tape.MINUS) {
+                if (mayOpen(open)) {
                     readOne(open + 1);
                     text.add(Text.NEGATE);
                 }
-            } else if (token == '(') {
-                if (opens(open)) {
+            } else if (token == Tape.OPENS) {
+                if (mayOpen(open)) {
                     readEither(open + 1);
-                    expect(')');
+                    expect(Tape.CLOSES);
                 }
             } else {
                 refuse();
             }
         }
 
-        /** Passes a ( , not or - where it may still open. */
-        private boolean opens(int open) {
+        /** Passes a ( , not or - if fewer than 5 are open. */
+        private boolean mayOpen(int open) {
             if (open >= MOST_OPEN) {
                 refuse();
                 return false;
@@ -999,99 +1122,24 @@ public final class ToolCrib {
         }
 
         private void expect(int wanted) {
-            if (!accept(wanted)) {
+            if (token == wanted) {
+                advance();
+            } else {
                 refuse();
             }
         }
 
-        /** The first FAULT counts; behind it every TOKEN is UNKNOWN, so that nothing more is read. */
+        /** The first FAULT counts; behind it every token is UNKNOWN, so that nothing more is read. */
         private void refuse() {
             if (fault == NONE) {
-                fault = start;
+                fault = tape.placeAt(at);
             }
-            token = UNKNOWN;
+            token = Tape.UNKNOWN;
         }
 
         private void advance() {
-            while (at < size && isBlank(byteAt(at))) {
-                at++;
-            }
-            start = at;
-            int b = byteAt(at);
-            if (at >= size) {
-                token = END;
-            } else if (isLetter(b)) {
-                readWord();
-            } else if (isDigit(b)) {
-                readNumber();
-            } else {
-                token = isSign(b) ? b : UNKNOWN;
-                at++;
-            }
-        }
-
-        private int byteAt(int i) {
-            return i >= 0 && i < size && i < TAPE_BYTES ? bytes[i] : 0;
-        }
-
-        private void readNumber() {
-            number = 0;
-            while (at < size && isDigit(byteAt(at))) {
-                number = number * 10 + (byteAt(at) - '0');
-                at++;
-            }
-            token = at - start <= MOST_DIGITS ? NUMBER : UNKNOWN;
-        }
-
-        private void readWord() {
-            while (at < size && isLetter(byteAt(at))) {
-                at++;
-            }
-            token = nameOrKey();
-        }
-
-        private int nameOrKey() {
-            if (isWord("cuts")) return Text.CUTS;
-            if (isWord("speed")) return Text.SPEED;
-            if (isWord("stuff")) return Text.STUFF;
-            if (isWord("life")) return Text.LIFE;
-            if (isWord("reading")) return Text.READING;
-            if (isWord("nominal")) return Text.NOMINAL;
-            if (isWord("worn")) return KEY_WORN;
-            if (isWord("broken")) return KEY_BROKEN;
-            if (isWord("check")) return KEY_CHECK;
-            if (isWord("or")) return Text.OR;
-            if (isWord("and")) return Text.AND;
-            if (isWord("not")) return Text.NOT;
-            return UNKNOWN;
-        }
-
-        private boolean isWord(String word) {
-            if (at - start != word.length()) {
-                return false;
-            }
-            for (int i = 0; i < word.length(); i++) {
-                if (byteAt(start + i) != word.charAt(i)) {
-                    return false;
-                }
-            }
-            return true;
-        }
-
-        private static boolean isBlank(int b) {
-            return b == 32 || b == 10;
-        }
-
-        private static boolean isLetter(int b) {
-            return b >= 'a' && b <= 'z';
-        }
-
-        private static boolean isDigit(int b) {
-            return b >= '0' && b <= '9';
-        }
-
-        private static boolean isSign(int b) {
-            return b == '(' || b == ')' || b == ';' || b == '+' || b == '-' || b == '*' || b == '<' || b == '=';
+            at++;
+            token = tape.tokenAt(at);
         }
     }
 

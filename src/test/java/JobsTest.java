@@ -112,6 +112,23 @@ public final class JobsTest {
         z.job(0b0100);
         z.job(0b0011);
         D.is("like ones", z.changes(orderOf(0, 1, 2), 2), 4);
+        ToolCrib w = new ToolCrib();
+        w.job(0b0011);
+        w.job(0b0100);
+        w.job(0b0110);
+        w.job(0b0001);
+        D.is("0 is wanted behind 1: it goes", w.changes(orderOf(0, 1, 2, 3), 2), 4);
+        ToolCrib v = new ToolCrib();
+        v.job(0b0011);
+        v.job(0b0100);
+        v.job(0b0101);
+        v.job(0b0010);
+        D.is("1 is wanted behind 0: it goes", v.changes(orderOf(0, 1, 2, 3), 2), 4);
+        ToolCrib u = new ToolCrib();
+        u.job(0b0011);
+        u.job(0b0100);
+        u.job(0b0010);
+        D.is("0 is never wanted again: it goes", u.changes(orderOf(0, 1, 2), 2), 3);
         D.is("next want counts, not the last one", nextWant(), 8);
     }
 

@@ -27,6 +27,7 @@ public final class MachinesTest {
         D.is("full", x.machine(20, 16), ToolCrib.FULL);
         D.is("bad is named first", x.machine(20, 17), ToolCrib.BAD);
         D.is("count(2)", x.count(2), 3);
+        D.is("at(3, 0)", x.at(3, 0), ToolCrib.BAD);
         D.is("at(0, 3)", x.at(0, 3), ToolCrib.NONE);
         D.is("at(0, 4)", x.at(0, 4), ToolCrib.BAD);
         D.is("at(1, 15)", x.at(1, 15), ToolCrib.NONE);

@@ -57,6 +57,17 @@ public final class TextsTest {
         D.is("worn: 50 < 51", x.says(0, 0), 1);
         D.is("broken: 500 < 510", x.says(0, 1), 1);
         D.is("it is broken", x.edgeTold(0, 5), 2);
+        ToolCrib y = new ToolCrib();
+        y.edge(0, 100, 50, 1, 999);
+        y.tool(100, 0, 1, 0);
+        y.machine(3, 4);
+        y.measure(0);
+        y.put(0, 0, 0);
+        y.cut(0, 0, 99, 1);
+        y.cut(0, 0, 67, 1);
+        D.is("broken: 500 < 498", y.says(0, 1), 0);
+        y.cut(0, 0, 1, 1);
+        D.is("broken: 500 < 501", y.says(0, 1), 1);
     }
 
     private static void fault(String text, int place) {
@@ -91,6 +102,11 @@ public final class TextsTest {
         fault("worn 1 life;", 7);
         fault("worn cutss;", 5);
         fault("worn cut;", 5);
+        fault("worn cutsz;", 5);
+        fault("worn acuts;", 5);
+        fault("worn cuts{;", 9);
+        fault("worn 1/;", 6);
+        fault("worn 1:;", 6);
         fault("worn 12345;", 5);
         fault("worn 00001;", 5);
         fault("worn 1 + 12345678901234567890;", 9);
@@ -157,6 +173,17 @@ public final class TextsTest {
             D.is("text " + i, Due.text(x, "worn 1;broken 1;check 1;"), i);
         }
         D.is("count(4)", x.count(4), 6);
+        ToolCrib y = new ToolCrib();
+        y.edge(0, 100, 50, 1, 50);
+        y.tool(100, 0, 1, 0);
+        for (int i = 0; i < 20; i++) {
+            D.is("a long fault", Due.text(y, "worn 1+2+3+4+5+6+7+8;broken 1+2+3+4+5+6+7+8;"), -144);
+        }
+        Due.text(y, "worn 1+2;broken 3+4;check 5+6;");
+        y.force(1);
+        for (int part = 0; part < 3; part++) {
+            D.is("a good one behind faults", y.says(0, part), 3 + 4 * part);
+        }
         D.is("full is named ahead of a fault", Due.text(x, "check"), ToolCrib.FULL);
         D.is("full: the tape stays", x.count(5), 5);
         D.is("full again", x.text(), ToolCrib.FULL);

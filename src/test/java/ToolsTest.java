@@ -45,6 +45,9 @@ public final class ToolsTest {
         D.is("tool 10: state is named first", x.tool(100, 9, 1, 0), ToolCrib.STATE);
         D.is("tool 10: bad is named first", x.tool(100, 11, 1, 0), ToolCrib.BAD);
         D.is("count(1)", x.count(1), 10);
+        D.is("toolTold(9, 1)", x.toolTold(9, 1), 9);
+        D.is("toolTold(10, 1)", x.toolTold(10, 1), ToolCrib.BAD);
+        D.is("measure(10)", x.measure(10), ToolCrib.BAD);
     }
 
     private static void told() {
@@ -95,6 +98,8 @@ public final class ToolsTest {
         D.is("count(7)", x.count(7), 3);
         x.setter(0, 0);
         D.is("nothing is off", x.calibrate(100), 0);
+        x.setter(-50, -1);
+        D.is("450*999/1000 = 449.55", x.calibrate(400), -49);
     }
 
     private static void measured() {
