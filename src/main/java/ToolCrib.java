@@ -858,8 +858,8 @@ public final class ToolCrib {
         static final int TIMES = -'*', BELOW = -'<', SAME = -'=';
 
         private final byte[] bytes = new byte[TAPE_BYTES];
-        private final int[] tokens = new int[TAPE_BYTES + 1];
-        private final int[] places = new int[TAPE_BYTES + 1];
+        private final int[] tokens = new int[TAPE_BYTES];
+        private final int[] places = new int[TAPE_BYTES];
         int size;
         private int tokenCount;
 
@@ -874,7 +874,6 @@ public final class ToolCrib {
             size = 0;
         }
 
-        /** The last of the tokens is END, at the text's size. */
         void split() {
             tokenCount = 0;
             for (int i = 0; i < size; i++) {
@@ -882,23 +881,23 @@ public final class ToolCrib {
                     keep(tokenFrom(i), i);
                 }
             }
-            keep(END, size);
         }
 
         private void keep(int token, int place) {
-            if (tokenCount <= TAPE_BYTES) {
+            if (tokenCount < TAPE_BYTES) {
                 tokens[tokenCount] = token;
                 places[tokenCount] = place;
                 tokenCount++;
             }
         }
 
+        /** Behind the tokens stands END, at the text's size. */
         int tokenAt(int i) {
-            return i >= 0 && i < tokenCount && i <= TAPE_BYTES ? tokens[i] : END;
+            return i >= 0 && i < tokenCount && i < TAPE_BYTES ? tokens[i] : END;
         }
 
         int placeAt(int i) {
-            return i >= 0 && i < tokenCount && i <= TAPE_BYTES ? places[i] : size;
+            return i >= 0 && i < tokenCount && i < TAPE_BYTES ? places[i] : size;
         }
 
         private int byteAt(int i) {

@@ -204,6 +204,8 @@ public final class HostTest {
         D.is("told by trail", x.trail(0, 0), 0);
         x.sheet(1, 0, 3);
         D.is("a sheet becomes all 0", x.cuts(0, 1, 0, 0, 1), 0);
+        x.cell(1, 0, 2);
+        D.is("0 cuts in a stuff of 0", x.cuts(0, 1, 0, 0, 1), 0);
         D.is("nothing was done", x.edgeTold(0, 6), before + 30);
     }
 }

@@ -189,6 +189,10 @@ public final class TextsTest {
         D.is("full again", x.text(), ToolCrib.FULL);
         D.is("full: what is fed comes behind", x.feed(1, 'x'), 6);
         D.is("force(5)", x.force(5), 0);
+        D.is("160 signs", Due.text(new ToolCrib(), "worn" + "(".repeat(156)), -109);
+        D.is("160 signs", Due.text(new ToolCrib(), ";".repeat(160)), -100);
+        D.is("160 bytes", Due.text(new ToolCrib(), "worn 1;broken 1;check 1" + "+1".repeat(68) + ";"), 1);
+        D.is("160 bytes that end too early", Due.text(new ToolCrib(), "worn 1;broken 1;check 12" + "+1".repeat(68)), -260);
         D.is("force(6)", x.force(6), ToolCrib.BAD);
     }
 
