@@ -342,9 +342,6 @@ public final class ToolCrib {
         if (!within(wants, 1, (1 << FAMILIES) - 1) || Integer.bitCount(wants) > 5) {
             return BAD;
         }
-        if (jobs.count >= MOST_JOBS) {
-            return FULL;
-        }
         return jobs.add(wants);
     }
 

@@ -1,12 +1,15 @@
 /** All promises: long rows of calls, chosen by a fixed row of numbers, answered as the Model answers them. */
 public final class ModelTest {
-    private static final int RUNS = 600, CALLS = 512;
+    private static final int RUNS = 2500, TEXTS = 60000;
+    /** An object is used for at most CALLS; the last TOLD of them, or fewer, ask what has come of the others. */
+    private static final int CALLS = 512, TOLD = 200;
     private static final Due D = new Due("ModelTest");
     private static final int[] FAR = {Integer.MIN_VALUE, Integer.MIN_VALUE + 1, -1000, -1, 0, 1, 1000, Integer.MAX_VALUE - 1, Integer.MAX_VALUE};
 
     private final int run;
     private final boolean wild;
     private long seed;
+    private int calls;
     private final ToolCrib x = new ToolCrib();
     private final Model m = new Model();
 
@@ -19,12 +22,14 @@ public final class ModelTest {
     public static void main(String[] args) {
         for (int run = 0; run < RUNS; run++) {
             ModelTest test = new ModelTest(run);
-            for (int i = 0; i < CALLS; i++) {
-                test.step(i);
+            while (test.calls < CALLS - TOLD) {
+                test.step(test.calls);
             }
-            test.everythingTold();
+            while (test.calls < CALLS) {
+                test.tell(test.calls);
+            }
         }
-        for (int i = 0; i < 60000; i++) {
+        for (int i = 0; i < TEXTS; i++) {
             ModelTest test = new ModelTest(i * 5 + 1000);
             test.oneText();
         }
@@ -46,6 +51,7 @@ public final class ModelTest {
     }
 
     private void is(int i, String call, long got, long want) {
+        calls++;
         D.is("run " + run + ", call " + i + ": " + call, got, want);
     }
 
@@ -223,27 +229,16 @@ public final class ModelTest {
         }
     }
 
-    private void everythingTold() {
-        for (int w = -1; w < 10; w++) {
-            is(CALLS, "count(" + w + ")", x.count(w), m.count(w));
-            for (int e = 0; e < 24; e++) {
-                is(CALLS, "edgeTold(" + e + ", " + w + ")", x.edgeTold(e, w), m.edgeTold(e, w));
-                is(CALLS, "used(" + e + ", " + w + ")", x.used(e, w), m.used(e, w));
-                is(CALLS, "trail(" + e + ", " + w + ")", x.trail(e, w), m.trail(e, w));
-            }
-            for (int t = 0; t < 10; t++) {
-                is(CALLS, "toolTold(" + t + ", " + w + ")", x.toolTold(t, w), m.toolTold(t, w));
-                is(CALLS, "says(" + t + ", " + w + ")", x.says(t, w), m.says(t, w));
-            }
-        }
-        for (int a = 0; a < 3; a++) {
-            for (int p = 0; p < 16; p++) {
-                is(CALLS, "at(" + a + ", " + p + ")", x.at(a, p), m.at(a, p));
-            }
-        }
-        for (int i = -1; i < 7; i++) {
-            int r = 1 + run % 9;
-            is(CALLS, "order(" + r + ", " + i + ")", x.order(r, i), m.order(r, i));
+    private void tell(int i) {
+        int which = below(40);
+        if (which == 0) {
+            int r = some(1, 9), k = some(-1, 6);
+            is(i, "order(" + r + ", " + k + ")", x.order(r, k), m.order(r, k));
+        } else if (which < 5) {
+            int a = some(0, 2), p = some(0, 15);
+            is(i, "at(" + a + ", " + p + ")", x.at(a, p), m.at(a, p));
+        } else {
+            telling(i, below(9));
         }
     }
 }
