@@ -56,6 +56,34 @@ final class Cribs {
         return x;
     }
 
+    /** An easy crib with one TOOL of FAMILY 2 in MACHINE 0. */
+    static ToolCrib ofFamilyTwo() {
+        ToolCrib x = easy();
+        made(x.edge(0, 100, 50, 1, 999));
+        made(x.tool(100, 0, 1, 2));
+        made(x.machine(3, 4));
+        made(x.put(0, 0, 0));
+        return x;
+    }
+
+    /** A crib with some JOBS. */
+    static ToolCrib wanting(int... wants) {
+        ToolCrib x = new ToolCrib();
+        for (int w : wants) {
+            made(x.job(w));
+        }
+        return x;
+    }
+
+    /** An order's digits to the base 6, the first JOB the lowest one. */
+    static long orderOf(int... jobs) {
+        long order = 0;
+        for (int i = jobs.length - 1; i >= 0; i--) {
+            order = order * 6 + jobs[i];
+        }
+        return order;
+    }
+
     static void row(ToolCrib x, int sheet, int sort, int... items) {
         made(x.sheet(sheet, sort, items.length));
         for (int i = 0; i < items.length; i++) {

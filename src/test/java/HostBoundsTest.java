@@ -212,7 +212,7 @@ public final class HostBoundsTest {
     /** Promise 28: all 0: what stood there is gone, also from behind the end of a shorter row between. */
     private static void sheetAllZero() {
         for (int between = -1; between <= 2; between++) {
-            ToolCrib x = shop();
+            ToolCrib x = Cribs.ofFamilyTwo();
             Cribs.row(x, 0, 2, 2, 5, 7, 2, 5, 7);
             D.is("cuts", x.cuts(0, 0, 2, 0, 2), 2);
             x.sheet(0, between, 0);
@@ -266,19 +266,9 @@ public final class HostBoundsTest {
         }
     }
 
-    /** One TOOL of FAMILY 2 in MACHINE 0, whose EDGE never wears out by texts. */
-    private static ToolCrib shop() {
-        ToolCrib x = Cribs.easy();
-        x.edge(0, 100, 50, 1, 999);
-        x.tool(100, 0, 1, 2);
-        x.machine(3, 4);
-        x.put(0, 0, 0);
-        return x;
-    }
-
     /** What a CUT by a row of one sort answers: its cuts of the corner, or -1, if it was left out. */
     private static void cutBy(int sort, int family, int cuts, int stuff, int want) {
-        ToolCrib x = shop();
+        ToolCrib x = Cribs.ofFamilyTwo();
         Cribs.row(x, 0, sort, family, cuts, stuff);
         String told = "sort " + sort + ", " + family + ", " + cuts + ", " + stuff;
         D.is(told, x.cuts(0, 0, sort, 0, 1), want < 0 ? 0 : 1);
@@ -386,7 +376,7 @@ public final class HostBoundsTest {
             D.refused("cuts: from the last but one", () -> sheetOf(0, size), x -> x.cuts(0, 3, 0, size - 2, 1), -12);
             D.refused("cuts: from the last", () -> sheetOf(0, size), x -> x.cuts(0, 3, 0, size - 1, 1), -12);
             D.refused("cuts: from behind it", () -> sheetOf(0, size), x -> x.cuts(0, 3, 0, size, 1), -12);
-            ToolCrib x = shop();
+            ToolCrib x = Cribs.ofFamilyTwo();
             x.sheet(0, 0, size);
             int[] triple = {2, 7, 5};
             for (int i = 0; i < 3; i++) {
@@ -414,7 +404,7 @@ public final class HostBoundsTest {
     /** Promise 30: n of them, 13 at most: all of a row of 40 from 0 and 1 on; from 2 on the last is outside. */
     private static void cutsOfThirteen() {
         for (int from = 0; from <= 2; from++) {
-            ToolCrib x = shop();
+            ToolCrib x = Cribs.ofFamilyTwo();
             x.sheet(0, 2, 40);
             int[] triple = {2, 2, 3};
             for (int i = from; i < 40; i++) {
@@ -428,7 +418,7 @@ public final class HostBoundsTest {
     /** Promise 30: -12: what stood ahead was done; three of which two are there are not begun. */
     private static void cutsAheadOfOutside() {
         for (int size = 3; size <= 8; size++) {
-            ToolCrib x = shop();
+            ToolCrib x = Cribs.ofFamilyTwo();
             x.sheet(1, 1, size);
             for (int i = 0; i < size; i++) {
                 x.cell(1, i, i % 3 == 1 ? 11 : 2);

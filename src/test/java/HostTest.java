@@ -56,19 +56,9 @@ public final class HostTest {
         D.is("count(8)", x.count(8), 1);
     }
 
-    /** One TOOL of FAMILY 2 in MACHINE 0, whose EDGE never wears out by texts. */
-    private static ToolCrib shop() {
-        ToolCrib x = Cribs.easy();
-        x.edge(0, 100, 50, 1, 999);
-        x.tool(100, 0, 1, 2);
-        x.machine(3, 4);
-        x.put(0, 0, 0);
-        return x;
-    }
-
     /** Promises 28 and 29: a SHEET of each sort, and one that becomes another. */
     private static void sheetsOfEachSort() {
-        ToolCrib x = shop();
+        ToolCrib x = Cribs.ofFamilyTwo();
         for (int sort = 0; sort < 3; sort++) {
             D.is("sheet", x.sheet(3, sort, 4), 1);
             int[] row = {9, 2, 7, 5};
@@ -82,7 +72,7 @@ public final class HostTest {
 
     /** Promise 30: three by three; those that are BAD or that none takes are left out. */
     private static void cuts() {
-        ToolCrib x = shop();
+        ToolCrib x = Cribs.ofFamilyTwo();
         x.sheet(0, 2, 40);
         int[] row = {2, 5, 7, 1, 9, 9, 2, 0, 9, 2, 6, 20, 2, 7, 21, 11, 1, 1, 2, 8, 1};
         for (int i = 0; i < row.length; i++) {

@@ -14,56 +14,40 @@ public final class JobsTest {
         D.end();
     }
 
-    private static ToolCrib crib(int... wants) {
-        ToolCrib x = new ToolCrib();
-        for (int w : wants) {
-            x.job(w);
-        }
-        return x;
-    }
-
-    private static long orderOf(int... jobs) {
-        long order = 0;
-        for (int i = jobs.length - 1; i >= 0; i--) {
-            order = order * 6 + jobs[i];
-        }
-        return order;
-    }
-
     /** Promise 25: what a JOB wants and isn't there counts 1. */
     private static void changes() {
-        ToolCrib x = crib(0b11111, 0b100001, 0b11111);
-        D.is("0 1 2 with 5", x.changes(orderOf(0, 1, 2), 5), 7);
-        D.is("0 1 2 with 6", x.changes(orderOf(0, 1, 2), 6), 6);
-        D.is("0 2 1 with 5", x.changes(orderOf(0, 2, 1), 5), 6);
-        D.is("1 0 2 with 5", x.changes(orderOf(1, 0, 2), 5), 6);
-        ToolCrib y = crib(3, 12, 3);
-        D.is("0 1 2 with 2", y.changes(orderOf(0, 1, 2), 2), 6);
-        D.is("0 1 2 with 9", y.changes(orderOf(0, 1, 2), 9), 4);
-        D.is("0 2 1 with 2", y.changes(orderOf(0, 2, 1), 2), 4);
+        ToolCrib x = Cribs.wanting(0b11111, 0b100001, 0b11111);
+        D.is("0 1 2 with 5", x.changes(Cribs.orderOf(0, 1, 2), 5), 7);
+        D.is("0 1 2 with 6", x.changes(Cribs.orderOf(0, 1, 2), 6), 6);
+        D.is("0 2 1 with 5", x.changes(Cribs.orderOf(0, 2, 1), 5), 6);
+        D.is("1 0 2 with 5", x.changes(Cribs.orderOf(1, 0, 2), 5), 6);
+        ToolCrib y = Cribs.wanting(3, 12, 3);
+        D.is("0 1 2 with 2", y.changes(Cribs.orderOf(0, 1, 2), 2), 6);
+        D.is("0 1 2 with 9", y.changes(Cribs.orderOf(0, 1, 2), 9), 4);
+        D.is("0 2 1 with 2", y.changes(Cribs.orderOf(0, 2, 1), 2), 4);
     }
 
     /** Promise 25: out goes what a later JOB wants again last, which shows in what the later ones cost. */
     private static void wantedAgainLast() {
-        ToolCrib x = crib(0b00111, 0b01000, 0b00001, 0b00010, 0b00100);
-        D.is("2 is wanted last: it goes", x.changes(orderOf(0, 1, 2, 3, 4), 3), 5);
-        D.is("0 is wanted last: it goes", x.changes(orderOf(0, 1, 4, 3, 2), 3), 5);
-        D.is("0 is wanted behind 1: it goes", crib(0b0011, 0b0100, 0b0110, 0b0001).changes(orderOf(0, 1, 2, 3), 2), 4);
-        D.is("1 is wanted behind 0: it goes", crib(0b0011, 0b0100, 0b0101, 0b0010).changes(orderOf(0, 1, 2, 3), 2), 4);
+        ToolCrib x = Cribs.wanting(0b00111, 0b01000, 0b00001, 0b00010, 0b00100);
+        D.is("2 is wanted last: it goes", x.changes(Cribs.orderOf(0, 1, 2, 3, 4), 3), 5);
+        D.is("0 is wanted last: it goes", x.changes(Cribs.orderOf(0, 1, 4, 3, 2), 3), 5);
+        D.is("0 is wanted behind 1: it goes", Cribs.wanting(0b0011, 0b0100, 0b0110, 0b0001).changes(Cribs.orderOf(0, 1, 2, 3), 2), 4);
+        D.is("1 is wanted behind 0: it goes", Cribs.wanting(0b0011, 0b0100, 0b0101, 0b0010).changes(Cribs.orderOf(0, 1, 2, 3), 2), 4);
     }
 
     /** Promise 25: never again: last of all. */
     private static void neverAgain() {
-        ToolCrib x = crib(0b00111, 0b11000, 0b00011, 0b01001);
-        D.is("never again goes ahead of all", x.changes(orderOf(0, 1, 2, 3), 4), 5);
-        D.is("with 3: 2 and 1 go, 4 then, nothing", x.changes(orderOf(0, 1, 2, 3), 3), 6);
-        D.is("0 2 1 3 with 3", x.changes(orderOf(0, 2, 1, 3), 3), 5);
+        ToolCrib x = Cribs.wanting(0b00111, 0b11000, 0b00011, 0b01001);
+        D.is("never again goes ahead of all", x.changes(Cribs.orderOf(0, 1, 2, 3), 4), 5);
+        D.is("with 3: 2 and 1 go, 4 then, nothing", x.changes(Cribs.orderOf(0, 1, 2, 3), 3), 6);
+        D.is("0 2 1 3 with 3", x.changes(Cribs.orderOf(0, 2, 1, 3), 3), 5);
     }
 
     /** Promise 25: 0 is wanted next, and at the very end; 1 between: 1 goes. */
     private static void nextWantCounts() {
-        ToolCrib x = crib(0b0000011, 0b0000100, 0b0001001, 0b0010010, 0b0100001);
-        D.is("next want counts, not the last one", x.changes(orderOf(0, 1, 2, 3, 4), 2), 8);
+        ToolCrib x = Cribs.wanting(0b0000011, 0b0000100, 0b0001001, 0b0010010, 0b0100001);
+        D.is("next want counts, not the last one", x.changes(Cribs.orderOf(0, 1, 2, 3, 4), 2), 8);
     }
 
     private static void best(ToolCrib x, int r, int changes, int... jobs) {
@@ -75,7 +59,7 @@ public final class JobsTest {
 
     /** Promise 26: THE ORDER as more JOBS come. */
     private static void bestOrders() {
-        ToolCrib x = crib(0b11, 0b1100, 0b11, 0b1100);
+        ToolCrib x = Cribs.wanting(0b11, 0b1100, 0b11, 0b1100);
         best(x, 2, 4, 0, 2, 1, 3);
         best(x, 3, 4, 0, 2, 1, 3);
         x.job(0b110);
@@ -101,7 +85,7 @@ public final class JobsTest {
     }
 
     private static void bestOfAll(int[] wants, int r) {
-        ToolCrib x = crib(wants);
+        ToolCrib x = Cribs.wanting(wants);
         int calls = wants.length;
         int least = Integer.MAX_VALUE;
         int[] first = new int[6];
@@ -115,16 +99,16 @@ public final class JobsTest {
                 continue;
             }
             if (calls == CALLS) {
-                x = crib(wants);
+                x = Cribs.wanting(wants);
                 calls = wants.length;
             }
-            int c = x.changes(orderOf(jobs), r);
+            int c = x.changes(Cribs.orderOf(jobs), r);
             calls++;
             if (c >= 0 && c < least) {
                 least = c;
                 first = jobs;
             }
         }
-        best(crib(wants), r, least, first);
+        best(Cribs.wanting(wants), r, least, first);
     }
 }

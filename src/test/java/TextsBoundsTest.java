@@ -181,38 +181,28 @@ public final class TextsBoundsTest {
         }
     }
 
-    /** Promise 15: WORDS are of a .. z alone: each byte there is, behind a WORD. */
+    /** Promise 15: WORDS are of a .. z alone: each byte there is, between two WORDS. */
     private static void everyByteBehindWord() {
-        for (int b = 0; b < 256; b++) {
-            String text = "worn cuts" + (char) b + "life;broken 2;check 3;";
-            boolean letter = b >= 'a' && b <= 'z';
-            boolean joins = "+-*<=".indexOf(b) >= 0;
-            if (joins) {
-                good(text);
-            } else if (letter) {
-                fault(text, 5);
-            } else if (b == ';') {
-                fault(text, 10);
-            } else {
-                fault(text, b == 32 || b == 10 ? 10 : 9);
-            }
-        }
+        everyByteBetween("cuts", "life", 'a', 'z');
     }
 
-    /** Promise 15: NUMBERS are of digits alone: each byte there is, behind a NUMBER of 4 digits and ahead of one. */
+    /** Promise 15: NUMBERS are of digits alone: each byte there is, between two NUMBERS of 4 digits. */
     private static void everyByteBehindNumber() {
+        everyByteBetween("9999", "0000", '0', '9');
+    }
+
+    /** A byte between two ONES of 4 bytes joins them, makes them one that is none, or is a FAULT, or what follows it is. */
+    private static void everyByteBetween(String one, String other, char least, char most) {
         for (int b = 0; b < 256; b++) {
-            String text = "worn 9999" + (char) b + "0000;broken 2;check 3;";
-            boolean digit = b >= '0' && b <= '9';
+            String text = "worn " + one + (char) b + other + ";broken 2;check 3;";
             boolean joins = "+-*<=".indexOf(b) >= 0;
+            boolean passes = b == 32 || b == 10 || b == ';';
             if (joins) {
                 good(text);
-            } else if (digit) {
+            } else if (b >= least && b <= most) {
                 fault(text, 5);
-            } else if (b == ';') {
-                fault(text, 10);
             } else {
-                fault(text, b == 32 || b == 10 ? 10 : 9);
+                fault(text, passes ? 10 : 9);
             }
         }
     }
@@ -332,6 +322,8 @@ public final class TextsBoundsTest {
         fault("worn 1=2=3;broken 2;check 3;", 8);
         fault("worn 1<2=3;broken 2;check 3;", 8);
         fault("worn 1=2<3;broken 2;check 3;", 8);
+        fault("worn not 1<2<3;broken 2;check 3;", 12);
+        fault("worn not 1=0=1;broken 2;check 3;", 12);
         good("worn 1<2 and 3<4 or 5=6;broken not 1<2 and not 3=4;check(1<2)+(3<4)=2;");
         fault("worn (1<2<3);broken 2;check 3;", 9);
         fault("worn 1<=2;broken 2;check 3;", 7);
