@@ -26,6 +26,7 @@ public final class JobsBoundsTest {
         noRoomForOrder();
         orderOfAllRooms();
         firstByNumbers();
+        orderThatBeginsLater();
         orderFollowsNewJobs();
         D.end();
     }
@@ -258,6 +259,12 @@ public final class JobsBoundsTest {
         best(Cribs.wanting(1, 2, 4, 8, 16, 1), 1, 5, 0, 5, 1, 2, 3, 4);
         best(Cribs.wanting(2, 1, 2, 1), 1, 2, 0, 2, 1, 3);
         best(Cribs.wanting(1, 3, 2), 2, 2, 0, 1, 2);
+    }
+
+    /** Promise 26: the first JOB of the fewest CHANGES is another than 0: of two like orders the one with the lesser first. */
+    private static void orderThatBeginsLater() {
+        best(Cribs.wanting(0b11, 0b101, 0b1010), 2, 4, 1, 0, 2);
+        best(Cribs.wanting(0b110, 0b1100, 0b11000, 0b110000, 0b11, 0b1100000), 2, 7, 4, 0, 1, 2, 3, 5);
     }
 
     /** Promise 26: THE ORDER of all JOBS: one that comes later is in it, a refused one isn't; CHANGES asked between leave it. */

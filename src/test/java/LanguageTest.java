@@ -103,7 +103,29 @@ public final class LanguageTest {
             }
         }
         D.is("a static block", Pattern.compile("static\\s*\\{").matcher(bare).find() ? 1 : 0, 0);
+        library(bare);
         lengths(bare);
+    }
+
+    /** What is called by a class's name or made is the program's own, or stands in rule 4; texts are not joined by +. */
+    private static void library(String bare) {
+        Set<String> own = new HashSet<>();
+        for (Class<?> c : classes()) {
+            own.add(c.getSimpleName());
+        }
+        Matcher call = Pattern.compile("\\b([A-Z]\\w*[a-z]\\w*)\\.(\\w+)\\(").matcher(bare);
+        while (call.find()) {
+            String told = call.group(1) + "." + call.group(2);
+            boolean ok = own.contains(call.group(1)) || told.matches("(Integer|Long|Math)\\.\\w+")
+                || told.matches("System\\.arraycopy|Arrays\\.(copyOf|copyOfRange|fill)");
+            D.is("not in the library: " + told, ok ? 1 : 0, 1);
+        }
+        Matcher made = Pattern.compile("\\bnew (\\w+)").matcher(bare);
+        while (made.find()) {
+            boolean ok = own.contains(made.group(1)) || made.group(1).matches("int|long|short|byte|char|boolean");
+            D.is("not to be made: " + made.group(1), ok ? 1 : 0, 1);
+        }
+        D.is("a text joined by +", Pattern.compile("\"\\s*\\+|\\+\\s*\"").matcher(bare).find() ? 1 : 0, 0);
     }
 
     /** Methods stay short: from a line that opens one to the line that closes it. */
