@@ -14,6 +14,8 @@ public final class HostBoundsTest {
         sheetMissing();
         sheetRefusedInOrder();
         sheetAllZero();
+        sheetZeroIsFamilyZero();
+        sheetZeroIsNoStuff();
         cellSheets();
         cellPlaces();
         cellOfNone();
@@ -224,6 +226,38 @@ public final class HostBoundsTest {
             x.cell(0, 2, 7);
             x.cell(0, 1, 0);
             D.is("the second is 0", x.cuts(0, 0, 2, 0, 1), 0);
+        }
+    }
+
+    /** Promise 28: all 0: each FAMILY that wasn't told is 0, in a new row and in one that held another there. */
+    private static void sheetZeroIsFamilyZero() {
+        for (int sort = 0; sort < 3; sort++) {
+            ToolCrib x = Cribs.cutting(0, 1, 999, 1);
+            for (int time = 0; time < 2; time++) {
+                x.sheet(0, sort, 39);
+                for (int k = 0; k < 13; k++) {
+                    x.cell(0, 3 * k + 1, 1);
+                    x.cell(0, 3 * k + 2, 1);
+                }
+                D.is("13 CUTS by FAMILY 0", x.cuts(0, 0, sort, 0, 13), 13);
+                for (int i = 0; i < 39; i++) {
+                    x.cell(0, i, 9);
+                }
+            }
+        }
+    }
+
+    /** Promise 28: all 0: of 40 the last, too: a STUFF that wasn't told is 0, whatever stood there. */
+    private static void sheetZeroIsNoStuff() {
+        for (int sort = 0; sort < 3; sort++) {
+            ToolCrib x = Cribs.cutting(0, 1, 999, 1);
+            x.sheet(0, sort, 40);
+            x.cell(0, 38, 1);
+            x.cell(0, 39, 1);
+            D.is("the last three of 40", x.cuts(0, 0, sort, 37, 1), 1);
+            x.sheet(0, sort, 40);
+            x.cell(0, 38, 1);
+            D.is("the last is 0", x.cuts(0, 0, sort, 37, 1), 0);
         }
     }
 
